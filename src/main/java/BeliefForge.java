@@ -288,6 +288,7 @@ public final class BeliefForge {
         return whole > 0.0 ? part / whole : 0.0;
     }
 
+    /** LG. */
     private static double lg(double x) {
         if (x <= 1.0 / TWO_TO_60) {
             return LEAST_LG;
@@ -305,6 +306,7 @@ public final class BeliefForge {
         return n + (m - 1.0);
     }
 
+    /** EX. */
     private static double ex(double v) {
         if (v <= LEAST_LG) {
             return 0.0;

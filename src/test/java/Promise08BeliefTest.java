@@ -12,6 +12,7 @@ final class Promise08BeliefTest {
         edgesOfLgAndEx();
         points();
         weightsOfNodes();
+        fullQueries();
         leftOut();
         leftOutWhereverItStands();
         wrongOnes();
@@ -122,6 +123,9 @@ final class Promise08BeliefTest {
         due(Math.scalb(1.0, -59), forge, 8, 1, 1, 0, 2, 1);
         forge.smooth(1, Double.MIN_VALUE);
         due(0.0, forge, 8, 1, 1, 0, 2, 1);
+        // LG is never below -60: here 0 and -60, though the second BELIEF is 2 to the power of -70
+        forge.smooth(1, Math.scalb(1.0, -69));
+        due(Math.scalb(1.0, -30), forge, 8, 2, 1, 0, 1, 1, 0, 2, 1);
         // LG just above -60 is rounded to -60, for it has 6 bits less
         forge.smooth(1, Math.scalb(Math.nextUp(1.0), -59));
         due(0.0, forge, 8, 1, 1, 0, 2, 1);
@@ -143,6 +147,21 @@ final class Promise08BeliefTest {
         // the w of an operator is its WEIGHT in the one around it
         due((3 * 0.125 + 1 * 0.5) / 4, forge, 9, 2, 9, 5, 2, 3, 0, 1, 50, 0, 2, 60, 0, 1, 1);
         due((1 * 0.125 + 3 * 0.5) / 4, forge, 9, 2, 9, 11, 0, 1, 0, 1, 50, 0, 3, 60, 0, 1, 3);
+    }
+
+    private static void fullQueries() {
+        BeliefForge forge = eighths();
+        double[] nots = new double[24 * 3];
+        for (int t = 0; t < 24; t++) {
+            nots[3 * t] = t < 23 ? 10 : 0;
+            nots[3 * t + 1] = 2;
+            nots[3 * t + 2] = 1;
+        }
+        due(0.75, forge, nots);
+        Check.same("hits of TOKEN 23", 2, forge.hits(23, 0));
+        nots[0] = 6;
+        nots[1] = 1;
+        due(0.25, forge, nots);
     }
 
     private static void leftOut() {
