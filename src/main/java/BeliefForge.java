@@ -508,9 +508,9 @@ public final class BeliefForge {
             return at;
         }
 
-        /** The WORD of a part of a window. */
+        // The parts of a window are TERMS, which are one TOKEN each.
         int termOf(int t, int part) {
-            return numbers[partAt(t, part)];
+            return numbers[t + 1 + part];
         }
 
         // From the last TOKEN on, since the end of a NODE is that of its last part.

@@ -1,9 +1,17 @@
+import java.util.NoSuchElementException;
+
 /** What the tests share: comparing answers, and short ways to fill an object. */
 final class Check {
     private static int wrong = 0;
     private static int done = 0;
+    private static String sentence = "";
 
     private Check() {
+    }
+
+    /** The words of the document that the checks from here on are for: told with each wrong answer. */
+    static void sentence(String words) {
+        sentence = words;
     }
 
     static void same(String call, long due, long got) {
@@ -45,7 +53,14 @@ final class Check {
     }
 
     static void missing(String call, Runnable run) {
-        throwing(call, java.util.NoSuchElementException.class, run);
+        throwing(call, NoSuchElementException.class, run);
+    }
+
+    /** The call throws, and leaves the object as it was. */
+    static void refused(BeliefForge forge, String call, Class<? extends RuntimeException> due, Runnable run) {
+        String before = Picture.of(forge);
+        throwing(call, due, run);
+        same("the object after " + call, before, Picture.of(forge));
     }
 
     /** The very class is due: one that extends it would have been thrown by Java itself. */
@@ -66,6 +81,9 @@ final class Check {
     private static void tell(String call, String got, String due) {
         wrong++;
         System.out.println(call + " answered " + got + ", due is " + due);
+        if (!sentence.isEmpty()) {
+            System.out.println("  by: " + sentence);
+        }
     }
 
     /** Ends the test: with exit code 1 if an answer was wrong, or if nothing was looked at. */

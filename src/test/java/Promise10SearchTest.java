@@ -1,91 +1,74 @@
-/** Promise 10: search. */
+/** Promise 10: search. What is FOUND, is tested in TermsSearchTest. */
 final class Promise10SearchTest {
+    private static final int[] WRONG = {0, -1, 11, 12, Integer.MIN_VALUE, Integer.MAX_VALUE};
+
     public static void main(String[] args) {
-        fallingBeliefsThenRisingNumbers();
-        onlySoManyAreFound();
-        onlyDocumentsWithWords();
-        leftOutOnesAreNotFound();
-        wrongOnesChangeNothing();
+        howManyAreFound();
+        ifKIsNotOneToTen();
+        ifTheQueryIsNotWhole();
+        whatIsNamedFirstIsThrown();
         Check.end();
     }
 
-    private static void due(BeliefForge forge, int... documents) {
-        Check.same("found", documents.length, forge.count(3));
-        for (int k = 0; k < documents.length; k++) {
-            Check.same("found(" + k + ")", documents[k], forge.found(k));
-            Check.same("score(" + k + ")", forge.belief(documents[k]), forge.score(k));
-        }
-    }
-
-    private static void fallingBeliefsThenRisingNumbers() {
-        BeliefForge forge = Check.forge("2 2 1", "1 1 2", "2 1 2", "1 1 1", "2 1 1", "2 2 2");
-        Check.query(forge, 0, 1, 1);
-        Check.same("search(10)", 6, forge.search(10));
-        due(forge, 3, 1, 4, 0, 2, 5);
-        Check.query(forge, 0, 9, 1);
-        Check.same("search(10) for a word that is nowhere", 6, forge.search(10));
-        due(forge, 0, 1, 2, 3, 4, 5);
-    }
-
-    private static void onlySoManyAreFound() {
-        BeliefForge forge = new BeliefForge();
-        for (int d = 0; d < 12; d++) {
-            Check.add(forge, "1" + " 2".repeat(12 - d));
-        }
-        Check.query(forge, 0, 1, 1);
-        Check.same("search(1)", 1, forge.search(1));
-        due(forge, 11);
-        Check.same("search(10)", 10, forge.search(10));
-        due(forge, 11, 10, 9, 8, 7, 6, 5, 4, 3, 2);
-        Check.same("search(3)", 3, forge.search(3));
-        due(forge, 11, 10, 9);
-    }
-
-    private static void onlyDocumentsWithWords() {
+    private static void howManyAreFound() {
+        Check.sentence("The SEARCH: how many are FOUND.");
         BeliefForge forge = new BeliefForge();
         Check.query(forge, 0, 1, 1);
-        Check.same("search without documents", 0, forge.search(10));
-        Check.add(forge, "");
-        Check.same("search without words", 0, forge.search(10));
-        Check.add(forge, "2");
-        Check.add(forge, "");
-        Check.same("search", 1, forge.search(10));
-        due(forge, 1);
-        Check.query(forge, 11, 0, 1, 0, 1, 1, 0, 1, 1);
-        Check.same("search that leaves out", 0, forge.search(10));
-        Check.same("left out, of those with words", 1, forge.count(4));
-    }
-
-    private static void leftOutOnesAreNotFound() {
-        BeliefForge forge = Check.forge("1 2 2", "3", "2 2 1 1", "2 2 2", "1 2");
-        Check.query(forge, 11, 0, 1, 0, 1, 1, 0, 2, 1);
-        Check.same("search(10)", 3, forge.search(10));
-        Check.same("left out", 2, forge.count(4));
-        due(forge, 0, 4, 2);
-        Check.same("search(2)", 2, forge.search(2));
-        Check.same("left out of a search for 2", 2, forge.count(4));
-        due(forge, 0, 4);
-        Check.query(forge, 11, 0, 1, 0, 9, 1, 0, 2, 1);
-        Check.same("search that finds nothing", 0, forge.search(10));
-        Check.same("left out, all", 5, forge.count(4));
-        Check.query(forge, 0, 1, 1);
-        Check.same("search without MUST", 5, forge.search(10));
-        Check.same("left out, none", 0, forge.count(4));
-    }
-
-    private static void wrongOnesChangeNothing() {
-        BeliefForge forge = Check.forge("1 2", "3");
-        Check.query(forge, 11, 0, 1, 0, 1, 1, 0, 2, 1);
-        forge.search(10);
-        for (int k : new int[] {0, -1, 11, Integer.MIN_VALUE, Integer.MAX_VALUE}) {
-            Check.argument("search(" + k + ")", () -> forge.search(k));
+        for (int d = 0; d <= 12; d++) {
+            Check.same("search(1) of " + d, Math.min(d, 1), forge.search(1));
+            Check.same("search(9) of " + d, Math.min(d, 9), forge.search(9));
+            Check.same("search(10) of " + d, Math.min(d, 10), forge.search(10));
+            Check.same("count(3) of " + d, Math.min(d, 10), forge.count(3));
+            if (d < 12) {
+                Check.add(forge, "1 2");
+            }
         }
-        forge.clear();
-        Check.state("search of an empty query", () -> forge.search(1));
-        Check.argument("a wrong search of an empty query", () -> forge.search(0));
-        forge.token(10, 0, 1.0);
-        Check.state("search of a part of a query", () -> forge.search(1));
-        Check.same("still found", 1, forge.count(3));
-        Check.same("still left out", 1, forge.count(4));
+        for (int k = 1; k <= 10; k++) {
+            Check.same("search(" + k + ") of 12", k, forge.search(k));
+        }
+    }
+
+    private static BeliefForge searched() {
+        BeliefForge forge = Check.forge("1 2", "3", "2 1 1");
+        Check.query(forge, 11, 0, 1, 0, 1, 1, 0, 2, 1);
+        Check.same("search(10)", 2, forge.search(10));
+        return forge;
+    }
+
+    private static void ifKIsNotOneToTen() {
+        Check.sentence("IllegalArgumentException if k is not 1 to 10");
+        for (int k : WRONG) {
+            BeliefForge forge = searched();
+            Check.refused(forge, "search(" + k + ")", IllegalArgumentException.class, () -> forge.search(k));
+            // it would find others, and leave none out
+            Check.query(forge, 0, 3, 1);
+            Check.refused(forge, "search(" + k + ")", IllegalArgumentException.class, () -> forge.search(k));
+        }
+    }
+
+    private static void ifTheQueryIsNotWhole() {
+        Check.sentence("IllegalStateException if the QUERY is not WHOLE");
+        BeliefForge fresh = Check.forge("1");
+        Check.refused(fresh, "search(1) of an empty query", IllegalStateException.class, () -> fresh.search(1));
+        double[][] parts = {{}, {10, 0, 1}, {11, 0, 1, 0, 1, 1}, {2, 1, 2, 0, 1, 1}, {6, 4, 1, 0, 1, 1, 0, 1, 1, 0, 1, 1}};
+        for (double[] part : parts) {
+            BeliefForge forge = searched();
+            Check.query(forge, part);
+            Check.refused(forge, "search(1) of a part of a query", IllegalStateException.class, () -> forge.search(1));
+            Check.state("search(10) of a part of a query", () -> forge.search(10));
+        }
+        fresh.clear();
+        for (int i = 0; i < 24; i++) {
+            fresh.token(10, 0, 1.0);
+        }
+        Check.state("search(1) of a full query that is not whole", () -> fresh.search(1));
+    }
+
+    private static void whatIsNamedFirstIsThrown() {
+        Check.sentence("IllegalArgumentException, IllegalStateException");
+        BeliefForge forge = Check.forge("1");
+        for (int k : WRONG) {
+            Check.argument("search(" + k + ") of an empty query", () -> forge.search(k));
+        }
     }
 }

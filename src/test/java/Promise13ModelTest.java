@@ -1,138 +1,51 @@
-/** Promise 13: model. */
+/** Promise 13: model. What A MODEL is, is tested in TermsModelTest. */
 final class Promise13ModelTest {
+    private static final int[] WRONG = {0, -1, 5, 24, Integer.MIN_VALUE, Integer.MAX_VALUE};
+
     public static void main(String[] args) {
-        theGreatestWords();
-        theLeastOfSeveral();
-        oneWordAlone();
-        noWordAtAll();
-        sumsGoByTheOrderOfTheFound();
-        documentsOfNowBeliefsOfThen();
-        theModelIsAQuery();
-        wrongOnesChangeNothing();
+        howManyTokensItHas();
+        theQueryBecomesAModel();
+        theBeliefsOfThen();
+        ofTheLatestSearch();
+        forAnotherN();
+        ifNothingIsFound();
+        whatIsNamedFirstIsThrown();
         Check.end();
     }
 
-    private static void due(BeliefForge forge, int t, int kind, int a, double w) {
-        Check.same("kind of token " + t, (double) kind, forge.told(t, 0));
-        Check.same("a of token " + t, (double) a, forge.told(t, 1));
-        Check.same("w of token " + t, w, forge.told(t, 2));
-    }
-
-    private static void theGreatestWords() {
-        BeliefForge forge = Check.forge("1 2 3 3", "3 1 1 2 2 2 4", "5");
-        Check.query(forge, 0, 1, 1);
-        forge.search(2);
-        // document 1 has the BELIEF p, document 0 the BELIEF q
-        double p = (2 + 2.0 * (3.0 / 12)) / (7 + 2.0);
-        double q = (1 + 2.0 * (3.0 / 12)) / (4 + 2.0);
-        Check.same("score(0)", p, forge.score(0));
-        Check.same("score(1)", q, forge.score(1));
-        Check.same("model(4)", 5, forge.model(4));
-        due(forge, 0, 9, 4, 1.0);
-        due(forge, 1, 0, 2, p * (3.0 / 7) + q * (1.0 / 4));
-        due(forge, 2, 0, 3, p * (1.0 / 7) + q * (2.0 / 4));
-        due(forge, 3, 0, 1, p * (2.0 / 7) + q * (1.0 / 4));
-        due(forge, 4, 0, 4, p * (1.0 / 7) + q * (0.0 / 4));
-        Check.same("model(2)", 3, forge.model(2));
-        due(forge, 0, 9, 2, 1.0);
-        due(forge, 1, 0, 2, p * (3.0 / 7) + q * (1.0 / 4));
-        due(forge, 2, 0, 3, p * (1.0 / 7) + q * (2.0 / 4));
-        Check.index("a third TERM", () -> forge.told(3, 0));
-    }
-
-    private static void theLeastOfSeveral() {
-        BeliefForge forge = Check.forge("15 9 0 4 4 7 9");
-        Check.query(forge, 0, 1, 1);
-        forge.search(1);
-        Check.same("model(3)", 4, forge.model(3));
-        double p = forge.score(0);
-        due(forge, 1, 0, 4, p * (2.0 / 7));
-        due(forge, 2, 0, 9, p * (2.0 / 7));
-        due(forge, 3, 0, 0, p * (1.0 / 7));
-        Check.same("model(4)", 5, forge.model(4));
-        due(forge, 4, 0, 7, p * (1.0 / 7));
-    }
-
-    private static void oneWordAlone() {
-        BeliefForge forge = Check.forge("15 15", "3");
-        Check.query(forge, 0, 15, 1);
-        forge.search(1);
-        double p = (2 + 2.0 * (2.0 / 3)) / (2 + 2.0);
-        Check.same("model(1)", 1, forge.model(1));
-        due(forge, 0, 0, 15, p * (2.0 / 2));
-        Check.same("model(4) of a text of one WORD", 1, forge.model(4));
-        due(forge, 0, 0, 15, p * (2.0 / 2));
-        Check.same("wanted", 0, forge.wanted());
-    }
-
-    /** The BELIEF in the NOT is 0, and so are all sums. */
-    private static void noWordAtAll() {
-        BeliefForge forge = Check.forge("1");
-        forge.smooth(1, 1.0);
-        Check.query(forge, 10, 0, 1, 0, 1, 1);
-        Check.same("search(1)", 1, forge.search(1));
-        Check.same("score(0)", 0.0, forge.score(0));
-        Check.same("model(4)", 0, forge.model(4));
-        Check.same("tokens", 0, forge.count(2));
-        Check.same("wanted", 1, forge.wanted());
-        Check.index("told(0, 0)", () -> forge.told(0, 0));
-        Check.same("nothing of the old query is left", 1, forge.token(1, 1, 1.0));
-    }
-
-    /** A sum by rising numbers, or from the last one FOUND to the first, has other last bits. */
-    private static void sumsGoByTheOrderOfTheFound() {
-        BeliefForge forge = Check.forge("1 1 1 2 3 4", "1 5 6 7", "1 2 3 4 5", "1 1 1 1 6");
-        Check.query(forge, 0, 1, 1);
-        forge.search(10);
-        int[] order = {3, 0, 1, 2};
-        double[] shares = {4.0 / 5, 3.0 / 6, 1.0 / 4, 1.0 / 5};
-        for (int k = 0; k < 4; k++) {
-            Check.same("found(" + k + ")", order[k], forge.found(k));
+    private static void howManyTokensItHas() {
+        Check.sentence("of n (1 to 4) WORDS at most: how many TOKENS it has.");
+        String[] texts = {"1", "1 2", "1 2 3", "1 2 3 4", "1 2 3 4 5"};
+        int[] tokens = {0, 1, 3, 4, 5};
+        for (int words = 1; words <= 5; words++) {
+            BeliefForge forge = Check.forge(texts[words - 1]);
+            Check.query(forge, 0, 1, 1);
+            forge.search(1);
+            for (int n = 1; n <= 4; n++) {
+                int due = tokens[Math.min(n, words)];
+                Check.same("model(" + n + ") of " + words + " words", due, forge.model(n));
+                Check.same("tokens of model(" + n + ") of " + words + " words", due, forge.count(2));
+            }
         }
-        double sum = sum(forge, shares, 0, 1, 2, 3);
-        Check.same("whether rising numbers would tell", 1, sum != sum(forge, shares, 1, 2, 3, 0) ? 1 : 0);
-        Check.same("whether the other way round would tell", 1, sum != sum(forge, shares, 3, 2, 1, 0) ? 1 : 0);
-        forge.model(1);
-        due(forge, 0, 0, 1, sum);
     }
 
-    private static double sum(BeliefForge forge, double[] shares, int... order) {
-        double sum = 0.0;
-        for (int k : order) {
-            sum = sum + forge.score(k) * shares[k];
+    private static void theQueryBecomesAModel() {
+        Check.sentence("The QUERY becomes A MODEL");
+        double[][] before = {{}, {0, 1, 1}, {2, 1, 3, 0, 1, 1}, {11, 0, 1}, {7, 4, 1, 0, 1, 1}};
+        for (double[] query : before) {
+            BeliefForge forge = Check.forge("1 1 2", "3 3 4", "5");
+            Check.query(forge, 0, 1, 1);
+            forge.search(1);
+            Check.query(forge, query);
+            Check.same("model(2)", 3, forge.model(2));
+            itIsAQuery(forge);
         }
-        return sum;
     }
 
-    private static void documentsOfNowBeliefsOfThen() {
-        BeliefForge forge = Check.forge("1 2");
-        Check.query(forge, 0, 1, 1);
-        forge.search(1);
-        double p = forge.score(0);
-        forge.word(5);
-        forge.word(5);
-        forge.word(5);
-        forge.smooth(1, 0.5);
-        Check.same("model(2)", 3, forge.model(2));
-        due(forge, 1, 0, 5, p * (3.0 / 5));
-        due(forge, 2, 0, 1, p * (1.0 / 5));
-        Check.same("score(0) stays", p, forge.score(0));
-        Check.same("found stays", 1, forge.count(3));
-    }
-
-    private static void theModelIsAQuery() {
-        BeliefForge forge = Check.forge("1 1 2", "3 3 4", "5");
-        Check.query(forge, 2, 1, 2, 0, 1, 1);
-        Check.same("wanted of a part of a window", 1, forge.wanted());
-        forge.clear();
-        Check.query(forge, 0, 1, 1);
-        forge.search(1);
-        forge.clear();
-        forge.token(2, 1, 2.0);
-        Check.same("model(2) in place of a part of a query", 3, forge.model(2));
+    private static void itIsAQuery(BeliefForge forge) {
         Check.same("wanted", 0, forge.wanted());
-        Check.same("tokens", 3, forge.count(2));
         Check.state("a token behind it", () -> forge.token(0, 1, 1.0));
+        Check.index("told(3, 0)", () -> forge.told(3, 0));
         Check.same("hits of its first TERM", 2, forge.hits(1, 0));
         double u = forge.told(1, 2);
         double v = forge.told(2, 2);
@@ -144,19 +57,83 @@ final class Promise13ModelTest {
         Check.same("no TERM is wanted", 1, forge.token(10, 1, 1.0));
     }
 
-    private static void wrongOnesChangeNothing() {
-        BeliefForge forge = Check.forge("1 2", "3");
-        Check.query(forge, 10, 0, 1, 0, 1, 1);
-        Check.state("model before a search", () -> forge.model(1));
-        Check.argument("a wrong model before a search", () -> forge.model(0));
+    private static void theBeliefsOfThen() {
+        Check.sentence("with the BELIEFS of then");
+        BeliefForge forge = Check.forge("1 2");
+        Check.query(forge, 0, 1, 1);
         forge.search(1);
-        for (int n : new int[] {0, -1, 5, Integer.MIN_VALUE, Integer.MAX_VALUE}) {
-            Check.argument("model(" + n + ")", () -> forge.model(n));
+        double p = forge.score(0);
+        forge.word(5);
+        forge.smooth(1, 0.5);
+        Check.query(forge, 10, 0, 1, 0, 5, 1);
+        forge.belief(0);
+        Check.same("model(1)", 1, forge.model(1));
+        Check.same("its weight", p * (1.0 / 3), forge.told(0, 2));
+        Check.same("score(0) stays", p, forge.score(0));
+        Check.same("found stays", 1, forge.count(3));
+    }
+
+    private static void ofTheLatestSearch() {
+        Check.sentence("the DOCUMENTS FOUND by the latest SEARCH");
+        BeliefForge forge = Check.forge("1 1 1", "2 2 2", "3 3 3");
+        Check.query(forge, 0, 1, 1);
+        forge.search(10);
+        Check.same("model(4) of three", 4, forge.model(4));
+        Check.query(forge, 0, 3, 1);
+        forge.search(1);
+        Check.same("model(4) of the one of the latest search", 1, forge.model(4));
+        Check.same("its word", 3.0, forge.told(0, 1));
+        Check.same("model(4) once more, without another search", 1, forge.model(4));
+        Check.same("its word once more", 3.0, forge.told(0, 1));
+        tenOfTwelve();
+    }
+
+    /** The two that were not among the first ten have a WORD of their own. */
+    private static void tenOfTwelve() {
+        BeliefForge forge = Check.forge("2", "1", "1", "1", "1", "1", "1", "1", "1", "1", "1", "2");
+        Check.query(forge, 0, 1, 1);
+        forge.search(10);
+        Check.same("model(4) of ten of twelve", 1, forge.model(4));
+        Check.same("its word", 1.0, forge.told(0, 1));
+    }
+
+    private static void forAnotherN() {
+        Check.sentence("IllegalArgumentException for another n");
+        for (int n : WRONG) {
+            BeliefForge forge = Check.forge("1 2", "3 4 5 6 7");
+            Check.query(forge, 10, 0, 1, 0, 1, 1);
+            forge.search(2);
+            Check.refused(forge, "model(" + n + ")", IllegalArgumentException.class, () -> forge.model(n));
+            Check.query(forge, 2, 1, 2);
+            Check.refused(forge, "model(" + n + ") in a part of a query", IllegalArgumentException.class, () -> forge.model(n));
         }
-        Check.same("tokens", 2, forge.count(2));
+    }
+
+    private static void ifNothingIsFound() {
+        Check.sentence("IllegalStateException if nothing is FOUND.");
+        BeliefForge forge = Check.forge("1 2", "3");
         Check.query(forge, 11, 0, 1, 0, 9, 1, 0, 1, 1);
-        forge.search(1);
-        Check.state("model when nothing is found", () -> forge.model(1));
-        Check.same("tokens", 3, forge.count(2));
+        for (int n = 1; n <= 4; n++) {
+            int words = n;
+            Check.refused(forge, "model before a search", IllegalStateException.class, () -> forge.model(words));
+        }
+        BeliefForge nothing = Check.forge("1 2", "3");
+        Check.query(nothing, 0, 1, 1);
+        Check.same("search that finds", 1, nothing.search(1));
+        Check.query(nothing, 11, 0, 1, 0, 9, 1, 0, 1, 1);
+        Check.same("search that finds nothing", 0, nothing.search(1));
+        Check.refused(nothing, "model(1)", IllegalStateException.class, () -> nothing.model(1));
+        BeliefForge empty = Check.forge("");
+        Check.query(empty, 0, 1, 1);
+        Check.same("search without words", 0, empty.search(1));
+        Check.refused(empty, "model(1) without words", IllegalStateException.class, () -> empty.model(1));
+    }
+
+    private static void whatIsNamedFirstIsThrown() {
+        Check.sentence("IllegalArgumentException, IllegalStateException");
+        BeliefForge forge = Check.forge("1 2");
+        for (int n : WRONG) {
+            Check.argument("model(" + n + ") before a search", () -> forge.model(n));
+        }
     }
 }
