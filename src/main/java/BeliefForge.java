@@ -283,7 +283,7 @@ public final class BeliefForge {
         return isWithin(w, 100.0);
     }
 
-    // Every division goes through here, so that none can answer NaN.
+    // Every division by a number that is not written goes through here, so that none can answer NaN.
     private static double ratio(double part, double whole) {
         return whole > 0.0 ? part / whole : 0.0;
     }
